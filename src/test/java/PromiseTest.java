@@ -534,6 +534,10 @@ public final class PromiseTest {
             dueThrow("13 '" + text + "'", ARGUMENT, x, () -> x.run());
             due("13 '" + text + "' stays", text.length(), x.clearBuffer());
         }
+        TailBlocks y = new TailBlocks();
+        type(y, "+5;<0:5;<0:1;+1");
+        due("13 up to a cut that is refused", 2, y.run());
+        due("13 which is counted", 1, y.count(8));
         due("13 refused for blocks", 2, ran("+200;+176;+9").count(0));
         due("13 the longest text", 20, runLongest());
     }
@@ -758,6 +762,7 @@ public final class PromiseTest {
         dueFewest(2, x);
         x.spoil(0);
         dueFewest(1, x);
+        due("24 by trying alone", 2, with(15, 15).fewest(1));
         dueThrow("24 what -1", ARGUMENT, x, () -> x.fewest(-1));
         dueThrow("24 what 2", ARGUMENT, x, () -> x.fewest(2));
     }
