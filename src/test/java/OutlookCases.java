@@ -180,6 +180,18 @@ final class OutlookCases extends Cases {
         fewest("not a broken file's tail", 1, () -> spoilt("+20;+13", 0));
         fewest("not a lost tail", 1, () -> spoilt("+9;+9", 0));
         fewest("none is left", 0, () -> spoilt("+9;+9", 0, 1));
+        fewest("asked before, of more tails", 1, OutlookCases::asked);
+    }
+
+    /** Two tails of 8 cells; what the tails need was asked when there were ten of 15. */
+    private static TailBlocks asked() {
+        TailBlocks x = with(15, 15, 15, 15, 15, 15, 15, 15, 15, 15);
+        due("ten tails, by sets", 10, x.fewest(0));
+        due("ten tails, by trying", 10, x.fewest(1));
+        due("ten tails, packed", 0, x.ifPacked());
+        type(x, "-0;-1;-2;-3;-4;-5;-6;-7;<8:7;<9:7");
+        x.run();
+        return x;
     }
 
     // ---- promise 25
@@ -192,6 +204,7 @@ final class OutlookCases extends Cases {
         unchanged("a tail finds no block", NONE, () -> ran("+6;+5;+5;+6;+5;+5"), x -> x.ifPacked());
         unchanged("a broken file's tail in the only block", NONE, () -> spoilt("+20;+12", 0), x -> x.ifPacked());
         unchanged("broken files alone", 0, () -> spoilt("+20", 0), x -> x.ifPacked());
+        unchanged("asked before, of more tails", 1, OutlookCases::asked, x -> x.ifPacked());
         says(25, "int ifPacked(): Tells how many blocks packing would free.");
         for (Maker disk : disks()) {
             int free = disk.make().count(1);
