@@ -682,7 +682,7 @@ public final class TailBlocks {
                 return NONE;
             }
             int file = lowestNumber();
-            if (file != NONE) {
+            if (file >= 0 && file < MAX_FILES) {
                 sizes[file] = 0;
                 rebuild(file, size);
             }
@@ -750,7 +750,7 @@ public final class TailBlocks {
 
         void takeWhole(int file, int rank) {
             int block = lowestFree();
-            if (block != NONE) {
+            if (isBlock(block)) {
                 kinds[block] = WHOLE;
                 owners[block] = file;
                 ranks[block] = rank;
@@ -889,7 +889,7 @@ public final class TailBlocks {
             }
             for (int at = 0; at < tails.number && at < MAX_FILES; at++) {
                 int block = firstWithRoom(tails.lengths[at]);
-                if (block == NONE) {
+                if (!isBlock(block)) {
                     return NONE;
                 }
                 newBlocks[at] = block;

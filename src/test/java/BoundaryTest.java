@@ -1,7 +1,7 @@
 /** Each sentence of the document that names a boundary, held by cases of its own that quote it. */
 public final class BoundaryTest {
-    private static final Class<?>[] ALL = {TermsCases.class, FilesCases.class, BlocksCases.class, TextsCases.class,
-        SnapshotsCases.class, LooksCases.class, OutlookCases.class};
+    private static final Class<?>[] ALL = {FrameCases.class, TermsCases.class, FilesCases.class, BlocksCases.class,
+        TextsCases.class, SnapshotsCases.class, LooksCases.class, OutlookCases.class};
 
     private BoundaryTest() {
     }

@@ -14,8 +14,10 @@ abstract class Cases {
     static final String ARGUMENT = "IllegalArgumentException";
     static final String STATE = "IllegalStateException";
 
-    /** Stands for "Terms" where a promise's number is asked for. */
+    /** These stand for what is ahead of the promises and behind them, where a promise's number is asked for. */
     static final int TERMS = 0;
+    static final int WHAT_IT_IS = Document.PROMISES + 1;
+    static final int NOT_PROMISED = Document.PROMISES + 2;
 
     private static final int SLOTS = 2;
     private static final int SAVED = 11;
@@ -28,6 +30,15 @@ abstract class Cases {
         Quote(int promise, String words) {
             this.promise = promise;
             this.words = words;
+        }
+
+        String section() {
+            switch (promise) {
+                case TERMS: return "Terms";
+                case WHAT_IT_IS: return "What it is";
+                case NOT_PROMISED: return "Not promised";
+                default: return "Promise " + promise;
+            }
         }
     }
 
@@ -61,7 +72,7 @@ abstract class Cases {
         }
     }
 
-    /** What follows holds the class to these words of that promise, or of "Terms". */
+    /** What follows holds the class to these words of that promise, or of what is ahead of them or behind them. */
     static void says(int promise, String words) {
         quote = new Quote(promise, words);
         quotes.add(quote);
@@ -71,8 +82,8 @@ abstract class Cases {
         checks++;
         if (!right) {
             wrong++;
-            String where = quote.promise == TERMS ? "Terms" : "Promise " + quote.promise;
-            System.out.println(where + " says '" + quote.words + "'; " + what + ": due is " + want + ", got " + got);
+            System.out.println(quote.section() + " says '" + quote.words + "'; " + what + ": due is " + want + ", got "
+                + got);
         }
     }
 

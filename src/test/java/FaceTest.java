@@ -58,10 +58,14 @@ public final class FaceTest {
         }
     }
 
-    public static void main(String[] args) throws IOException {
+    public static void main(String[] args) throws IOException, ReflectiveOperationException {
+        List<String> source = Files.readAllLines(Path.of("src/main/java/TailBlocks.java"));
         members();
+        constant();
+        asWritten(source, Document.face());
+        headings(source, Document.lines());
         names();
-        lines(Files.readAllLines(Path.of("src/main/java/TailBlocks.java")));
+        lines(source);
         System.out.println(wrong == 0 ? "the face and the language are kept" : wrong + " rules are broken");
         if (wrong != 0) {
             System.exit(1);
@@ -86,6 +90,57 @@ public final class FaceTest {
             check(Modifier.isPrivate(f.getModifiers()) || f.getName().equals("NONE"), "a field more: " + f);
             check(!Modifier.isStatic(f.getModifiers()) || Modifier.isFinal(f.getModifiers()), "static state: " + f);
         }
+    }
+
+    private static void constant() throws ReflectiveOperationException {
+        Field none = TailBlocks.class.getField("NONE");
+        int right = Modifier.PUBLIC | Modifier.STATIC | Modifier.FINAL;
+        check(none.getModifiers() == right && none.getType() == int.class, "NONE is not a public constant");
+        check(none.getInt(null) == -1, "NONE is not -1");
+    }
+
+    /** Each line of the document's face stands in the source, in the same order, with the same parameters' names. */
+    private static void asWritten(List<String> source, List<String> face) {
+        check(face.size() == FACE.length + 4, "the document's face has " + face.size() + " lines");
+        int at = 0;
+        for (String line : face) {
+            String due = line.endsWith(");") || line.contains(" throws ") ? line.replace(";", " {") : line;
+            int from = at;
+            while (at < source.size() && !source.get(at).trim().equals(due)) {
+                at++;
+            }
+            check(at < source.size(), "not in the source, or not in its place: " + due);
+            at = at < source.size() ? at + 1 : from;
+        }
+    }
+
+    /** Ahead of each call the source says what the document says that the interface says. */
+    private static void headings(List<String> source, List<String> document) {
+        int calls = 0;
+        for (String line : document) {
+            String[] parts = line.split(" the interface says: ");
+            if (line.startsWith("Ahead of the calls ") && parts.length == 2) {
+                String heading = "// " + parts[1].substring(0, parts[1].length() - 1);
+                for (String name : parts[0].substring("Ahead of the calls ".length()).replace("`", "").split(", ")) {
+                    calls++;
+                    check(heading.equals(headingOf(source, name)), "ahead of " + name + " is not " + heading);
+                }
+            }
+        }
+        check(calls == FACE.length, "the document tells what is ahead of " + calls + " calls");
+    }
+
+    private static String headingOf(List<String> source, String call) {
+        String heading = "";
+        for (String line : source) {
+            if (line.startsWith("    // ----")) {
+                heading = line.trim();
+            }
+            if (line.matches("    public \\w+ " + call + "\\(.*")) {
+                return heading;
+            }
+        }
+        return "";
     }
 
     private static String told(Method m) {
